@@ -331,20 +331,18 @@ public final class BornNumbers {
     }
 
     private static boolean isPowerOfTwo(long factor) {
-        long size = Math.abs(factor);
-        return size != 0 && (size & (size - 1)) == 0;
+        return Long.bitCount(Math.abs(factor)) == 1;
     }
 
     // ---- fractions: parts by 2 to the scale
 
+    private static int halvings(long parts) {
+        // The lowest 1 less one is a 1 for each 0 behind it; 0 itself can be halved as often as it has bits.
+        return Long.bitCount((parts & -parts) - 1);
+    }
+
     private static int leastBelow(long parts, int scale) {
-        int k = scale;
-        long left = parts;
-        while (k > 0 && left % 2 == 0) {
-            left /= 2;
-            k--;
-        }
-        return k;
+        return Math.max(0, scale - halvings(parts));
     }
 
     private static int leastAbove(long parts, int scale) {
@@ -367,11 +365,7 @@ public final class BornNumbers {
     }
 
     private static long factorQuotient(long f, long powerOfTwo) {
-        int scale = 0;
-        for (long size = Math.abs(powerOfTwo); size > 1; size /= 2) {
-            scale++;
-        }
-        return factorOf(powerOfTwo < 0 ? -f : f, scale);
+        return factorOf(powerOfTwo < 0 ? -f : f, halvings(powerOfTwo));
     }
 
     // ---- making rows

@@ -28,6 +28,9 @@ public final class HeapsTest {
         CHECK.same("in its own place", Reading.row(x, 0), "+--+");
         CHECK.due("side(0, 0, 1)", x.side(0, 0, 1), 2);
         CHECK.same("and again", Reading.row(x, 0), "+-");
+        x.row(6, 3, 1);
+        CHECK.due("side(6, 6, 0)", x.side(6, 6, 0), 0);
+        CHECK.same("the left of +--", Reading.row(x, 6), "");
         CHECK.due("side(2, 3, 0)", x.side(2, 3, 0), NO);
         CHECK.due("side(2, 3, 1)", x.side(2, 3, 1), NO);
         x.number(3, 5, 0);

@@ -1,5 +1,6 @@
 import java.math.BigDecimal;
 import java.math.BigInteger;
+import java.math.RoundingMode;
 import java.util.ArrayList;
 import java.util.Collections;
 import java.util.List;
@@ -250,8 +251,8 @@ final class Model {
 
     private static int multiples(BigDecimal low, BigDecimal high, int k) {
         BigDecimal scale = new BigDecimal(1 << k);
-        BigInteger first = low.multiply(scale).setScale(0, java.math.RoundingMode.FLOOR).toBigInteger();
-        BigInteger behind = high.multiply(scale).setScale(0, java.math.RoundingMode.CEILING).toBigInteger();
+        BigInteger first = low.multiply(scale).setScale(0, RoundingMode.FLOOR).toBigInteger();
+        BigInteger behind = high.multiply(scale).setScale(0, RoundingMode.CEILING).toBigInteger();
         return Math.max(0, behind.subtract(first).intValue() - 1);
     }
 
@@ -366,20 +367,12 @@ final class Model {
         return what == 0 ? e : what == 1 ? above(factor).intValueExact() : leastK(factor);
     }
 
-    private static TreeMap<Integer, BigDecimal> difference(Map<Integer, BigDecimal> y, TreeMap<Integer, BigDecimal> x) {
+    /** x and y, or x less y; null for HIGH. */
+    private static TreeMap<Integer, BigDecimal> together(TreeMap<Integer, BigDecimal> x, Map<Integer, BigDecimal> y,
+            boolean less) {
         TreeMap<Integer, BigDecimal> made = copy(x);
         for (Map.Entry<Integer, BigDecimal> second : y.entrySet()) {
-            if (!put(made, second.getKey(), second.getValue().negate())) {
-                return null;
-            }
-        }
-        return made;
-    }
-
-    private static TreeMap<Integer, BigDecimal> together(Map<Integer, BigDecimal> y, TreeMap<Integer, BigDecimal> x) {
-        TreeMap<Integer, BigDecimal> made = copy(x);
-        for (Map.Entry<Integer, BigDecimal> second : y.entrySet()) {
-            if (!put(made, second.getKey(), second.getValue())) {
+            if (!put(made, second.getKey(), less ? second.getValue().negate() : second.getValue())) {
                 return null;
             }
         }
@@ -400,8 +393,8 @@ final class Model {
         if (!isSum(z) || how < 0 || how > 2 || !isSum(x) || !isSum(y)) {
             return BAD;
         }
-        TreeMap<Integer, BigDecimal> made = how == 0 ? together(sums.get(y), sums.get(x))
-            : how == 1 ? difference(sums.get(y), sums.get(x)) : product(sums.get(x), sums.get(y));
+        TreeMap<Integer, BigDecimal> made = how == 2 ? product(sums.get(x), sums.get(y))
+            : together(sums.get(x), sums.get(y), how == 1);
         if (made == null) {
             return HIGH;
         }
@@ -437,7 +430,7 @@ final class Model {
         if (!isSum(x) || !isSum(y)) {
             return -9;
         }
-        TreeMap<Integer, BigDecimal> made = difference(sums.get(y), sums.get(x));
+        TreeMap<Integer, BigDecimal> made = together(sums.get(x), sums.get(y), true);
         return made == null ? HIGH : made.isEmpty() ? 0 : made.firstEntry().getValue().signum();
     }
 

@@ -30,10 +30,34 @@ public final class ModelTest {
     }
 
     private void run(int seed) {
+        if (seed % 4 != 0) {
+            fill();
+        }
         for (int i = 0; i < CALLS; i++) {
             call();
         }
         CHECK.same("run " + seed + told, Reading.all(x), m.all());
+    }
+
+    /** Rows near to one another, and sums that can divide, which calls by chance alone seldom make. */
+    private void fill() {
+        int likeness = below(1 << 24);
+        for (int s = 0; s < 12; s++) {
+            int n = below(3) == 0 ? 24 - below(3) : below(10);
+            int signs = (likeness ^ (below(2) == 0 ? 0 : below(4) << 20)) & (1 << n) - 1;
+            due("row(" + s + "," + n + "," + signs + ")", x.row(s, n, signs), m.row(s, n, signs));
+        }
+        for (int z = 0; z < 8; z++) {
+            int lead = below(5) - 1;
+            int a = below(2) == 0 ? 1 << below(4) : -1;
+            int k = below(3);
+            due("term(" + z + "," + lead + "," + a + "," + k + ")", x.term(z, lead, a, k), m.term(z, lead, a, k));
+            for (int i = below(3); i > 0; i--) {
+                int e = lead - 1 - below(3);
+                int b = below(6) == 0 ? 900000000 + below(100000000) : below(2 * size + 1) - size;
+                due("term(" + z + "," + e + "," + b + "," + k + ")", x.term(z, e, b, k), m.term(z, e, b, k));
+            }
+        }
     }
 
     private int below(int bound) {
@@ -68,7 +92,7 @@ public final class ModelTest {
         return edgeOr(below(2 * size + 1) - size << (below(5) == 0 ? below(26) : 0));
     }
 
-    private int below2() {
+    private int power() {
         return edgeOr(below(3) == 0 ? below(21) : below(4));
     }
 
@@ -102,7 +126,7 @@ public final class ModelTest {
             }
             case 1: case 2: {
                 int a = above();
-                int k = below2();
+                int k = power();
                 due("number(" + s + "," + a + "," + k + ")", x.number(s, a, k), m.number(s, a, k));
                 break;
             }
@@ -164,7 +188,7 @@ public final class ModelTest {
             case 0: case 1: case 2: {
                 int e = edgeOr(below(4) == 0 ? below(15) - 7 : below(5) - 2);
                 int a = above();
-                int k = below2();
+                int k = power();
                 due("term(" + z + "," + e + "," + a + "," + k + ")", x.term(z, e, a, k), m.term(z, e, a, k));
                 break;
             }

@@ -109,6 +109,15 @@ public final class SumsTest {
         CHECK.due("sum(0, 1, 1, 0)", x.sum(0, 1, 1, 0), 3);
         CHECK.same("less it", Reading.sum(x, 0), "[ -9/2^0W^4 -9/2^1W^2 5/2^0W^-3 ]");
         CHECK.due("sum(0, 1, 0, 0)", x.sum(0, 1, 0, 0), 0);
+        x.term(3, -6, 1, 0);
+        x.term(3, 6, 2, 0);
+        x.term(4, 0, 3, 0);
+        CHECK.due("sum(5, 2, 3, 4)", x.sum(5, 2, 3, 4), 2);
+        CHECK.same("the outermost exponents", Reading.sum(x, 5), "[ 6/2^0W^6 3/2^0W^-6 ]");
+        CHECK.due("sum(5, 2, 4, 3)", x.sum(5, 2, 4, 3), 2);
+        CHECK.same("the other way round", Reading.sum(x, 5), "[ 6/2^0W^6 3/2^0W^-6 ]");
+        CHECK.due("sum(5, 1, 5, 3)", x.sum(5, 1, 5, 3), 2);
+        CHECK.same("less", Reading.sum(x, 5), "[ 4/2^0W^6 2/2^0W^-6 ]");
     }
 
     private static void sumHigh() {
