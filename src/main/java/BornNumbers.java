@@ -23,9 +23,10 @@ public final class BornNumbers {
     // A row of 24 signs has at most 23 behind its first run, so a 2 to the -23 measures every row exactly.
     private static final int ROW_SCALE = MOST_SIGNS - 1;
     private static final long ONE = 1L << ROW_SCALE;
+    private static final long BEYOND_ALL_ROWS = 1L << 60;
 
     // A factor is kept as one long, in parts of 2 to the -20; this one is outside of all of them.
-    private static final long NO_FACTOR = Long.MIN_VALUE;
+    private static final long NO_FACTOR = 1L << 60;
 
     private final int[] days = new int[REGISTERS];
     private final int[] rowSigns = new int[REGISTERS];
@@ -436,7 +437,7 @@ public final class BornNumbers {
     // One part more or less makes 'above' and 'below' of 'at least' and 'at most': no row lies between parts.
 
     private long leastAboveAll(int left) {
-        long least = Long.MIN_VALUE;
+        long least = -BEYOND_ALL_ROWS;
         for (int s = 0; s < REGISTERS; s++) {
             if (has(left, s)) {
                 least = Math.max(least, values[s] + 1);
@@ -446,7 +447,7 @@ public final class BornNumbers {
     }
 
     private long greatestBelowAll(int right) {
-        long greatest = Long.MAX_VALUE;
+        long greatest = BEYOND_ALL_ROWS;
         for (int s = 0; s < REGISTERS; s++) {
             if (has(right, s)) {
                 greatest = Math.min(greatest, values[s] - 1);

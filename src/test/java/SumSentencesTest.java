@@ -254,6 +254,19 @@ public final class SumSentencesTest {
             sum(2, 2, 0, 1) = 3
             terms(2) = [ -31250/2^0W^2 999999999/2^0W^1 32000/2^0W^0 ]
             """);
+        SCRIPT.run("as it comes to be: 900000000 twice, and off it once, in either order of the two", """
+            term(0, 1, 30000, 0) = 1
+            term(0, 0, 30000, 0) = 2
+            term(0, -2, -30000, 0) = 3
+            term(1, 2, 30000, 0) = 1
+            term(1, 0, 30000, 0) = 2
+            term(1, -1, 30000, 0) = 3
+            sum(2, 2, 0, 1) = -5
+            terms(2) = [ ]
+            sum(2, 2, 1, 0) = 7
+            told(2, 3, 0) = 0
+            told(2, 3, 1) = 900000000
+            """);
         SCRIPT.run("TERM by TERM of the second: HIGH at the last of them leaves all as it was", """
             term(0, 6, 1, 0) = 1
             term(0, -6, 1000000000, 0) = 2
@@ -343,6 +356,16 @@ public final class SumSentencesTest {
             terms(2) = [ 1/2^0W^0 ]
             terms(3) = [ ]
             """);
+        for (int e = -6; e <= 6; e++) {
+            SCRIPT.run("or if the REST is 0, whatever the EXPONENT of y", """
+                term(0, %1$d, 3, 0) = 1
+                term(1, %1$d, 2, 0) = 1
+                divide(2, 3, 0, 1, 20) = 1
+                terms(2) = [ 3/2^1W^0 ]
+                terms(3) = [ ]
+                divide(2, 3, 3, 1, 20) = 0
+                """.formatted(e));
+        }
         SCRIPT.run("or if the EXPONENT of what would be put is below -6", """
             term(0, -6, 5, 0) = 1
             term(1, 1, 1, 0) = 1
